@@ -10,6 +10,7 @@ public final class BasesTest {
         ordersOfSix();
         negative();
         based();
+        sixElements();
         check.end();
     }
 
@@ -99,6 +100,18 @@ public final class BasesTest {
         check.due("26: what 4", x.based(1, 4), NONE);
         check.due("26: what -1", x.based(0, -1), NONE);
         check.due("26: missing", x.based(1, 0), MISSING);
+    }
+
+    private static void sixElements() {
+        LesseningGains x = ofPoints(6);
+        for (int p = 0; p < 6; p++) {
+            x.weight(p, -p);
+        }
+        x.weighed(0);
+        numbers(x, 1, 64, 0, 63);
+        check.due("25: six elements", x.negative(0, 719), -15);
+        x.tell(0, 63, -16);
+        numbers(x, 0, 63, 0, 63);
     }
 
     private static void weights(LesseningGains x, int a, int b, int c) {

@@ -12,6 +12,7 @@ public final class CutsTest {
         greedyChoice();
         bestChoice();
         mostErrors();
+        sixElements();
         check.end();
     }
 
@@ -82,6 +83,19 @@ public final class CutsTest {
         Check.tellAll(x, 1, 9, -4, -5, -9, -3, -8, -8, 9);
         check.due("34: only sets of that size", x.most(1, 1, 1), 4);
         check.due("34: lowest of negative equals", x.most(1, 2, 1), 5);
+    }
+
+    private static void sixElements() {
+        LesseningGains x = ofPoints(6);
+        for (int set = 0; set < 64; set++) {
+            x.tell(0, set, set == 62 ? -1 : set == 48 ? 9 : 2);
+        }
+        wall(x, 5, 0, 62, -1);
+        wall(x, 0, 5, 1, 2);
+        check.due("34: greedy of six", x.most(0, 6, 0), 63);
+        check.due("34: greedy of two", x.most(0, 2, 0), 3);
+        check.due("34: best of two", x.most(0, 2, 1), 48);
+        check.due("34: k 7", x.most(0, 7, 1), BAD);
     }
 
     private static void mostErrors() {

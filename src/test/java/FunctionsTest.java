@@ -28,6 +28,7 @@ public final class FunctionsTest {
         value();
         gain();
         fails();
+        sixElements();
         check.end();
     }
 
@@ -136,6 +137,10 @@ public final class FunctionsTest {
         x.tell(0, 1, 50);
         check.table("12: later data do not change it", x, 1, "0 8 0 8");
         check.table("12: nor other functions", x, 2, "0 9 0 9");
+        x.tell(0, 0, 7);
+        x.sum(0, 0, 0);
+        x.cut(1);
+        check.due("9: the empty set has its own value", x.value(1, 0), 0);
     }
 
     private static void sum() {
@@ -366,9 +371,51 @@ public final class FunctionsTest {
         check.due("23: f", x.fails(6, 0), NONE);
     }
 
+    /** Tables of 64 values, which fill all the room there is. */
+    private static void sixElements() {
+        LesseningGains x = ofPoints(6);
+        for (int p = 0; p < 6; p++) {
+            x.arc(p, (p + 1) % 6, 1 + p);
+            x.item(p, 10, 1 << p);
+            x.block(p, p);
+            x.weight(p, -p);
+        }
+        check.due("9: six elements", x.cut(0), 6);
+        check.due("10: six elements", x.cover(1), 60);
+        check.due("11: six elements", x.capped(2), 6);
+        check.due("12: six elements", x.weighed(3), 985);
+        check.due("13: six elements", x.sum(1, 3, 4), 1);
+        check.due("13: ALL", x.value(4, 63), 45);
+        check.due("14: six elements", x.turn(1, 5), 1);
+        check.due("14: empty set", x.value(5, 0), 60);
+        check.due("15: six elements", x.cutBack(2, 5), 1);
+        check.due("15: ALL", x.value(5, 63), -15);
+        check.due("16: restriction", x.part(1, 32, 0, 5), 1);
+        check.due("16: ALL", x.value(5, 63), 10);
+        check.due("16: contraction", x.part(1, 32, 1, 5), 1);
+        check.due("16: ALL", x.value(5, 63), 50);
+        check.due("17: six elements", x.held(1, 55, 5), 1);
+        check.due("17: ALL", x.value(5, 63), 55);
+        check.due("21: beyond ALL", x.value(5, 64), DEEP + BAD);
+        check.due("22: last gain", x.gain(5, 31, 5), 5);
+        int[][] properties = {{1, 0, 0, 0}, {1, 1, 0, 1}, {1, 1, 0, 1}, {1, 0, 0, 1}, {1, 1, 0, 1}, {1, 1, 0, 0}};
+        for (int f = 0; f < 6; f++) {
+            for (int what = 1; what <= 4; what++) {
+                check.due("19: function " + f + " what " + what, x.of(f, what), properties[f][what - 1]);
+            }
+            check.due("23: function " + f, x.fails(f, 0), NOT);
+        }
+        x.tell(1, 63, 61);
+        failureOf(x, 1, 15, 4, 5);
+    }
+
+    private static void failureOf(LesseningGains x, int f, int set, int i, int j) {
+        check.due("23: set of " + f, x.fails(f, 0), set);
+        check.due("23: i of " + f, x.fails(f, 1), i);
+        check.due("23: j of " + f, x.fails(f, 2), j);
+    }
+
     private static void failure(LesseningGains x, int set, int i, int j) {
-        check.due("23: set", x.fails(0, 0), set);
-        check.due("23: i", x.fails(0, 1), i);
-        check.due("23: j", x.fails(0, 2), j);
+        failureOf(x, 0, set, i, j);
     }
 }

@@ -13,6 +13,8 @@ public final class MinimisersTest {
         sequence();
         ties();
         sequenceErrors();
+        heightBeforeLevel();
+        sixElements();
         check.end();
     }
 
@@ -30,6 +32,8 @@ public final class MinimisersTest {
         check.due("27: first", x.least(0), -4);
         Check.tellAll(x, 0, 4, 3, -999999, 2);
         check.due("27: lowest", x.least(0), -999999);
+        Check.tellAll(x, 0, 4, 1, 9, 2);
+        check.due("27: second", x.least(0), 1);
         check.due("27: f", x.least(6), NO);
         check.due("27: f -1", x.least(-1), NO);
         check.due("27: missing", x.least(1), NO);
@@ -45,6 +49,8 @@ public final class MinimisersTest {
         numbers(x, 3, 1, 7, 0);
         Check.tellAll(x, 0, 1, 1, 1, 1, 1, 0, 1, 1);
         numbers(x, 1, 5, 5, 1);
+        Check.tellAll(x, 0, 1, 1, 0, 1, 0, 1, 1, 1);
+        numbers(x, 2, 0, 6, 0);
         Check.tellAll(x, 0, 0, 0, 0, 0, 0, 0, 0, 0);
         numbers(x, 8, 0, 7, 1);
         check.due("28: f", x.leastSets(-1, 0), NONE);
@@ -126,6 +132,31 @@ public final class MinimisersTest {
             member(six, i, (2 << i) - 1, 2 * i + 1, 1);
         }
         check.due("30: no seventh", six.level(0, 6), NOT);
+    }
+
+    private static void heightBeforeLevel() {
+        LesseningGains x = ofPoints(2);
+        x.weight(0, 5);
+        x.weight(1, 8);
+        x.weighed(0);
+        check.due("31: asked first", x.height(0, 1, 0), 8);
+        x.weight(0, 9);
+        x.weighed(1);
+        check.due("31: of another function", x.height(1, 0, 0), 8);
+        check.due("31: of the first again", x.height(0, 0, 0), 5);
+    }
+
+    private static void sixElements() {
+        LesseningGains x = ofPoints(6);
+        for (int set = 0; set < 64; set++) {
+            x.tell(0, set, set == 63 ? -7 : 3);
+        }
+        check.due("27: six elements", x.least(0), -7);
+        check.due("28: how many", x.leastSets(0, 0), 1);
+        check.due("28: intersection", x.leastSets(0, 1), 63);
+        check.due("28: closed", x.leastSets(0, 3), 1);
+        check.due("29: six elements", x.ring(0, 5), 63);
+        member(x, 0, 63, -5, 3);
     }
 
     private static void member(LesseningGains x, int i, int set, int numerator, int denominator) {

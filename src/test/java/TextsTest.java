@@ -12,6 +12,7 @@ public final class TextsTest {
         numbers();
         errorsOfCommands();
         syntaxErrors();
+        noOldBytes();
         syntaxErrorsDoNothing();
         fullTape();
         write();
@@ -77,6 +78,7 @@ public final class TextsTest {
         check.due("36: no effect", x.weight(0, 7), 7);
         check.due("36: some", Check.run(x, "cut 0;cut 6;cut 1;sum 0 2 3;sum 0 1 3"), 3);
         check.due("36: functions", x.count(1), 3);
+        check.due("36: an answer 0 is no error", Check.run(x, "cap 0 0;cap 0 0;cut 0;cover 0;capped 0;arc 0 1 0"), 6);
     }
 
     private static void error(String program, int position) {
@@ -98,6 +100,12 @@ public final class TextsTest {
         error("capp", 0);
         error("cappe 1", 0);
         error("cutcut", 0);
+        error("cutz 1", 0);
+        error("cuta 1", 0);
+        error("z", 0);
+        error("but 1", 0);
+        error("gap 1 1", 0);
+        error("ark 1 1 1", 0);
         error("cuT 1", 0);
         error("cut", 3);
         error("cut1", 3);
@@ -142,6 +150,23 @@ public final class TextsTest {
         error("cut{", 3);
     }
 
+    /** What an earlier text left behind the end of the tape is not on it. */
+    private static void noOldBytes() {
+        LesseningGains x = new LesseningGains();
+        Check.run(x, "cutcut");
+        check.due("36: no old letter", Check.run(x, "cut"), -103);
+        Check.run(x, "cut 123");
+        check.due("36: no old digit", Check.run(x, "cut 1"), 1);
+        check.due("36: function 1", x.of(1, 0), 1);
+        check.due("36: no old space", Check.run(x, "arc 0"), -105);
+        check.due("36: no old number", Check.run(x, "cut "), -104);
+        StringBuilder letters = new StringBuilder();
+        for (int i = 0; i < 100; i++) {
+            letters.append('c');
+        }
+        check.due("36: letters alone", Check.run(x, letters.toString()), -100);
+    }
+
     private static void syntaxErrorsDoNothing() {
         LesseningGains x = new LesseningGains();
         check.due("36: error at the end", Check.run(x, "cut 0;weight 0 5;cat"), -117);
@@ -176,6 +201,10 @@ public final class TextsTest {
         Check.tellAll(x, 1, 1000, 7, 10, 100001);
         check.due("37: shorter", x.write(1), 16);
         check.holds("37: in place of it", Check.paper(x).equals("1000 7 10 100001"));
+        Check.tellAll(x, 2, 100000, -100000, 999, -90);
+        check.due("37: powers of ten", x.write(2), 22);
+        check.holds("37: powers of ten", Check.paper(x).equals("100000 -100000 999 -90"));
+        x.write(1);
         x.tell(1, 0, 5);
         check.holds("37: what is written stays", Check.paper(x).equals("1000 7 10 100001"));
         x.points(6);
