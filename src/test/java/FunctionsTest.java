@@ -167,6 +167,13 @@ public final class FunctionsTest {
         Check.tellAll(x, 4, -1, 0, 0, 0);
         check.due("13: too small", x.sum(3, 4, 5), STATE);
         check.due("13: stays missing", x.of(5, 0), MISSING);
+        x.points(3);
+        Check.tellAll(x, 0, TOP, TOP, TOP, TOP, TOP, TOP, TOP, TOP);
+        check.due("13: all too great", x.sum(0, 0, 1), STATE);
+        x.points(2);
+        x.tell(0, 3, 4);
+        check.due("13: nothing is left of it", x.sum(0, 0, 1), 1);
+        check.table("13: nothing is left of it", x, 1, "0 0 0 8");
     }
 
     private static void turn() {

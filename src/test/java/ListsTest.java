@@ -94,6 +94,14 @@ public final class ListsTest {
         check.table("42: whole", x, 0, "0 0 0 6");
         x.put(1, 3, 7);
         check.due("42: the function is apart", x.value(0, 3), 6);
+        x.points(6);
+        x.list(1, 64);
+        x.put(1, 63, -5);
+        check.due("42: longest", x.lay(0, 1), 64);
+        check.due("42: last value", x.value(0, 63), -5);
+        check.due("43: longest", x.judge(1, 0), NOT);
+        x.tell(0, 63, 1);
+        check.due("43: last value", x.judge(1, 0), 63);
     }
 
     private static void judge() {
