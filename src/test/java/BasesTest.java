@@ -14,14 +14,8 @@ public final class BasesTest {
         check.end();
     }
 
-    private static LesseningGains ofPoints(int n) {
-        LesseningGains x = new LesseningGains();
-        x.points(n);
-        return x;
-    }
-
     private static void base() {
-        LesseningGains x = ofPoints(3);
+        LesseningGains x = Check.ofPoints(3);
         Check.tellAll(x, 0, 1, 10, 20, -5, 40, 3, 7, 100);
         long[][] bases = {
             {9, -15, 105}, {9, 97, -7}, {-25, 19, 105}, {93, 19, -13}, {-37, 97, 39}, {93, -33, 39}
@@ -38,7 +32,7 @@ public final class BasesTest {
         check.due("24: f", x.base(6, 0, 0), NO);
         check.due("24: f -1", x.base(-1, 0, 0), NO);
         check.due("24: missing", x.base(1, 0, 0), NO);
-        LesseningGains one = ofPoints(1);
+        LesseningGains one = Check.ofPoints(1);
         Check.tellAll(one, 0, 3, 1);
         check.due("24: one element", one.base(0, 0, 0), -2);
         check.due("24: one order", one.base(0, 1, 0), NO);
@@ -46,7 +40,7 @@ public final class BasesTest {
 
     /** With value = size squared, an entry tells the place of its element in the order. */
     private static void ordersOfSix() {
-        LesseningGains x = ofPoints(6);
+        LesseningGains x = Check.ofPoints(6);
         for (int set = 0; set < 64; set++) {
             x.tell(0, set, Integer.bitCount(set) * Integer.bitCount(set));
         }
@@ -65,7 +59,7 @@ public final class BasesTest {
     }
 
     private static void negative() {
-        LesseningGains x = ofPoints(3);
+        LesseningGains x = Check.ofPoints(3);
         Check.tellAll(x, 0, 1, 10, 20, -5, 40, 3, 7, 100);
         long[] parts = {-15, -7, -25, -13, -37, -33};
         for (int order = 0; order < 6; order++) {
@@ -82,7 +76,7 @@ public final class BasesTest {
     }
 
     private static void based() {
-        LesseningGains x = ofPoints(3);
+        LesseningGains x = Check.ofPoints(3);
         Check.tellAll(x, 0, 10, 15, 22, 22, 17, 22, 22, 22);
         weights(x, 5, 5, 2);
         numbers(x, 1, 3, 1, 7);
@@ -103,7 +97,7 @@ public final class BasesTest {
     }
 
     private static void sixElements() {
-        LesseningGains x = ofPoints(6);
+        LesseningGains x = Check.ofPoints(6);
         for (int p = 0; p < 6; p++) {
             x.weight(p, -p);
         }

@@ -29,6 +29,12 @@ final class Check {
         }
     }
 
+    static LesseningGains ofPoints(int n) {
+        LesseningGains x = new LesseningGains();
+        x.points(n);
+        return x;
+    }
+
     static void feed(LesseningGains x, String text) {
         for (int i = 0; i < text.length(); i++) {
             x.feed(text.charAt(i));

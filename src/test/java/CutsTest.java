@@ -16,19 +16,13 @@ public final class CutsTest {
         check.end();
     }
 
-    private static LesseningGains ofPoints(int n) {
-        LesseningGains x = new LesseningGains();
-        x.points(n);
-        return x;
-    }
-
     private static void wall(LesseningGains x, int s, int t, int set, long value) {
         check.due("32: from " + s + " to " + t, x.wall(0, s, t), set);
         check.due("33: from " + s + " to " + t, x.wallValue(0, s, t), value);
     }
 
     private static void walls() {
-        LesseningGains x = ofPoints(3);
+        LesseningGains x = Check.ofPoints(3);
         Check.tellAll(x, 0, -9, 5, 4, 3, 2, 5, 2, -9);
         wall(x, 0, 1, 1, 5);
         wall(x, 0, 2, 3, 3);
@@ -36,7 +30,7 @@ public final class CutsTest {
         wall(x, 1, 2, 3, 3);
         wall(x, 2, 0, 4, 2);
         wall(x, 2, 1, 4, 2);
-        LesseningGains four = ofPoints(4);
+        LesseningGains four = Check.ofPoints(4);
         for (int set = 0; set < 16; set++) {
             four.tell(0, set, Integer.bitCount(set) == 2 ? -3 : 8);
         }
@@ -49,7 +43,7 @@ public final class CutsTest {
     }
 
     private static void wallErrors() {
-        LesseningGains x = ofPoints(2);
+        LesseningGains x = Check.ofPoints(2);
         x.cut(0);
         int[][] wrong = {{6, 0, 1}, {-1, 0, 1}, {0, 2, 1}, {0, -1, 1}, {0, 0, 2}, {0, 0, -1}, {0, 1, 1}};
         for (int[] w : wrong) {
@@ -62,7 +56,7 @@ public final class CutsTest {
     }
 
     private static void greedyChoice() {
-        LesseningGains x = ofPoints(3);
+        LesseningGains x = Check.ofPoints(3);
         Check.tellAll(x, 0, 0, 4, 5, 6, 5, 9, 7, 8);
         check.due("34: none", x.most(0, 0, 0), 0);
         check.due("34: of equal gains the lowest", x.most(0, 1, 0), 2);
@@ -74,7 +68,7 @@ public final class CutsTest {
     }
 
     private static void bestChoice() {
-        LesseningGains x = ofPoints(3);
+        LesseningGains x = Check.ofPoints(3);
         Check.tellAll(x, 0, 0, 4, 5, 6, 5, 9, 7, 8);
         check.due("34: best of none", x.most(0, 0, 1), 0);
         check.due("34: best of equals is the lowest", x.most(0, 1, 1), 2);
@@ -86,7 +80,7 @@ public final class CutsTest {
     }
 
     private static void sixElements() {
-        LesseningGains x = ofPoints(6);
+        LesseningGains x = Check.ofPoints(6);
         for (int set = 0; set < 64; set++) {
             x.tell(0, set, set == 62 ? -1 : set == 48 ? 9 : 2);
         }
@@ -99,7 +93,7 @@ public final class CutsTest {
     }
 
     private static void mostErrors() {
-        LesseningGains x = ofPoints(3);
+        LesseningGains x = Check.ofPoints(3);
         x.cut(0);
         check.due("34: f", x.most(6, 4, 0), NONE);
         check.due("34: way 2", x.most(1, 4, 2), NONE);

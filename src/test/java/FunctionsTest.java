@@ -32,14 +32,8 @@ public final class FunctionsTest {
         check.end();
     }
 
-    private static LesseningGains ofPoints(int n) {
-        LesseningGains x = new LesseningGains();
-        x.points(n);
-        return x;
-    }
-
     private static void tell() {
-        LesseningGains x = ofPoints(2);
+        LesseningGains x = Check.ofPoints(2);
         check.due("8: missing", x.tell(5, 2, -TOP), 0);
         check.table("8: the other values are 0", x, 5, "0 0 -999999 0");
         check.due("8: again", x.tell(5, 2, TOP), -TOP);
@@ -62,7 +56,7 @@ public final class FunctionsTest {
     }
 
     private static void cut() {
-        LesseningGains x = ofPoints(3);
+        LesseningGains x = Check.ofPoints(3);
         x.arc(0, 1, 1);
         x.arc(1, 0, 2);
         x.arc(0, 2, 4);
@@ -74,14 +68,14 @@ public final class FunctionsTest {
         check.due("9: kind", x.of(0, 0), 1);
         check.due("9: function 6", x.cut(6), NONE);
         check.due("9: function -1", x.cut(-1), NONE);
-        LesseningGains one = ofPoints(1);
+        LesseningGains one = Check.ofPoints(1);
         one.tell(0, 0, 5);
         check.due("9: one element", one.cut(0), 0);
         check.table("9: one element", one, 0, "0 0");
     }
 
     private static void cover() {
-        LesseningGains x = ofPoints(3);
+        LesseningGains x = Check.ofPoints(3);
         x.item(0, 5, 3);
         x.item(7, 7, 6);
         x.item(3, 90, 0);
@@ -93,7 +87,7 @@ public final class FunctionsTest {
     }
 
     private static void capped() {
-        LesseningGains x = ofPoints(3);
+        LesseningGains x = Check.ofPoints(3);
         check.due("11: at first", x.capped(0), 1);
         x.cap(0, 2);
         x.block(2, 5);
@@ -111,7 +105,7 @@ public final class FunctionsTest {
     }
 
     private static void weighed() {
-        LesseningGains x = ofPoints(3);
+        LesseningGains x = Check.ofPoints(3);
         x.weight(0, -4);
         x.weight(1, 3);
         x.weight(2, -2);
@@ -120,7 +114,7 @@ public final class FunctionsTest {
         check.due("12: kind", x.of(2, 0), 4);
         check.due("12: function 6", x.weighed(6), NONE);
         check.due("12: function -1", x.weighed(-1), NONE);
-        LesseningGains six = ofPoints(6);
+        LesseningGains six = Check.ofPoints(6);
         for (int i = 0; i < 6; i++) {
             six.weight(i, -99);
         }
@@ -128,7 +122,7 @@ public final class FunctionsTest {
     }
 
     private static void valuesAreKept() {
-        LesseningGains x = ofPoints(2);
+        LesseningGains x = Check.ofPoints(2);
         x.weight(0, 4);
         x.weighed(0);
         x.sum(0, 0, 1);
@@ -144,7 +138,7 @@ public final class FunctionsTest {
     }
 
     private static void sum() {
-        LesseningGains x = ofPoints(2);
+        LesseningGains x = Check.ofPoints(2);
         Check.tellAll(x, 0, 1, 2, 3, 4);
         Check.tellAll(x, 1, 10, -20, 30, TOP - 4);
         check.due("13: answer", x.sum(0, 1, 2), 1);
@@ -177,7 +171,7 @@ public final class FunctionsTest {
     }
 
     private static void turn() {
-        LesseningGains x = ofPoints(2);
+        LesseningGains x = Check.ofPoints(2);
         Check.tellAll(x, 0, 1, 2, 3, 4);
         check.due("14: answer", x.turn(0, 5), 1);
         check.table("14: values", x, 5, "4 3 2 1");
@@ -193,7 +187,7 @@ public final class FunctionsTest {
     }
 
     private static void cutBack() {
-        LesseningGains x = ofPoints(3);
+        LesseningGains x = Check.ofPoints(3);
         Check.tellAll(x, 0, 0, 5, 4, 7, 3, 6, 9, 8);
         x.weight(0, 2);
         x.weight(1, -1);
@@ -218,7 +212,7 @@ public final class FunctionsTest {
     }
 
     private static void part() {
-        LesseningGains x = ofPoints(3);
+        LesseningGains x = Check.ofPoints(3);
         Check.tellAll(x, 0, 1, 5, 4, 7, 3, 6, 9, 8);
         check.due("16: restriction", x.part(0, 5, 0, 1), 1);
         check.table("16: restriction", x, 1, "1 5 1 5 3 6 3 6");
@@ -243,7 +237,7 @@ public final class FunctionsTest {
     }
 
     private static void held() {
-        LesseningGains x = ofPoints(2);
+        LesseningGains x = Check.ofPoints(2);
         Check.tellAll(x, 0, -5, 2, 3, 9);
         check.due("17: answer", x.held(0, 3, 1), 1);
         check.table("17: values", x, 1, "-5 2 3 3");
@@ -263,7 +257,7 @@ public final class FunctionsTest {
     }
 
     private static void clear() {
-        LesseningGains x = ofPoints(2);
+        LesseningGains x = Check.ofPoints(2);
         x.tell(0, 0, 1);
         x.cut(1);
         x.cover(2);
@@ -280,7 +274,7 @@ public final class FunctionsTest {
     }
 
     private static void of() {
-        LesseningGains x = ofPoints(2);
+        LesseningGains x = Check.ofPoints(2);
         properties(x, "constant", 1, 1, 1, 1, 7, 7, 7, 7);
         properties(x, "modular with an offset", 1, 1, 0, 1, 5, 6, 8, 9);
         properties(x, "falling modular", 1, 0, 0, 1, 0, -1, 2, 1);
@@ -296,7 +290,7 @@ public final class FunctionsTest {
         for (int what = 0; what <= 4; what++) {
             check.due("19: missing", x.of(1, what), MISSING);
         }
-        LesseningGains one = ofPoints(1);
+        LesseningGains one = Check.ofPoints(1);
         properties(one, "one element", 1, 1, 0, 1, 0, 1);
         properties(one, "one element, falling", 1, 0, 0, 1, 1, 0);
     }
@@ -312,7 +306,7 @@ public final class FunctionsTest {
     }
 
     private static void taken() {
-        LesseningGains x = ofPoints(2);
+        LesseningGains x = Check.ofPoints(2);
         x.tell(0, 0, 1);
         x.cut(1);
         x.cover(2);
@@ -334,7 +328,7 @@ public final class FunctionsTest {
     }
 
     private static void value() {
-        LesseningGains x = ofPoints(2);
+        LesseningGains x = Check.ofPoints(2);
         x.tell(0, 3, -TOP);
         check.due("21: value", x.value(0, 3), -TOP);
         check.due("21: f", x.value(6, 9), DEEP + NONE);
@@ -345,7 +339,7 @@ public final class FunctionsTest {
     }
 
     private static void gain() {
-        LesseningGains x = ofPoints(2);
+        LesseningGains x = Check.ofPoints(2);
         Check.tellAll(x, 0, 1, -TOP, TOP, 4);
         check.due("22: at the empty set", x.gain(0, 0, 1), TOP - 1);
         check.due("22: great", x.gain(0, 1, 1), TOP + 4);
@@ -361,7 +355,7 @@ public final class FunctionsTest {
     }
 
     private static void fails() {
-        LesseningGains x = ofPoints(3);
+        LesseningGains x = Check.ofPoints(3);
         Check.tellAll(x, 0, 0, 1, 1, 2, 1, 2, 2, 4);
         failure(x, 1, 1, 2);
         Check.tellAll(x, 0, 0, 1, 1, 2, 1, 3, 2, 3);
@@ -380,7 +374,7 @@ public final class FunctionsTest {
 
     /** Tables of 64 values, which fill all the room there is. */
     private static void sixElements() {
-        LesseningGains x = ofPoints(6);
+        LesseningGains x = Check.ofPoints(6);
         for (int p = 0; p < 6; p++) {
             x.arc(p, (p + 1) % 6, 1 + p);
             x.item(p, 10, 1 << p);

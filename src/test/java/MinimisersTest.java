@@ -18,14 +18,8 @@ public final class MinimisersTest {
         check.end();
     }
 
-    private static LesseningGains ofPoints(int n) {
-        LesseningGains x = new LesseningGains();
-        x.points(n);
-        return x;
-    }
-
     private static void least() {
-        LesseningGains x = ofPoints(2);
+        LesseningGains x = Check.ofPoints(2);
         Check.tellAll(x, 0, 4, 3, 9, 2);
         check.due("27: last", x.least(0), 2);
         Check.tellAll(x, 0, -4, 3, 9, 2);
@@ -40,7 +34,7 @@ public final class MinimisersTest {
     }
 
     private static void leastSets() {
-        LesseningGains x = ofPoints(3);
+        LesseningGains x = Check.ofPoints(3);
         Check.tellAll(x, 0, 1, 0, 1, 0, 1, 0, 1, 0);
         numbers(x, 4, 1, 7, 1);
         Check.tellAll(x, 0, 1, 0, 1, 0, 1, 0, 1, 1);
@@ -69,7 +63,7 @@ public final class MinimisersTest {
     }
 
     private static void ring() {
-        LesseningGains x = ofPoints(3);
+        LesseningGains x = Check.ofPoints(3);
         Check.tellAll(x, 0, 1, 1, 0, 0, 1, 1, 1, 1);
         check.due("29: element 0", x.ring(0, 0), 3);
         check.due("29: element 1", x.ring(0, 1), 2);
@@ -81,7 +75,7 @@ public final class MinimisersTest {
     }
 
     private static void sequence() {
-        LesseningGains x = ofPoints(4);
+        LesseningGains x = Check.ofPoints(4);
         for (int p = 0; p < 4; p++) {
             x.weight(p, new int[] {3, -2, 3, 8}[p]);
         }
@@ -109,7 +103,7 @@ public final class MinimisersTest {
 
     /** Of equal quotients the most elements, then the lowest int. */
     private static void ties() {
-        LesseningGains x = ofPoints(3);
+        LesseningGains x = Check.ofPoints(3);
         Check.tellAll(x, 0, 0, 1, 1, 3, 1, 2, 2, 9);
         check.due("30: number", x.level(0, -1), 2);
         member(x, 0, 5, 1, 1);
@@ -123,7 +117,7 @@ public final class MinimisersTest {
         member(x, 2, 7, 27, 1);
         Check.tellAll(x, 0, 999999, 999999, 999999, 999999, 999999, 999999, 0, -999999);
         member(x, 0, 7, -666666, 1);
-        LesseningGains six = ofPoints(6);
+        LesseningGains six = Check.ofPoints(6);
         for (int set = 1; set < 64; set++) {
             six.tell(0, set, Integer.bitCount(set) * Integer.bitCount(set));
         }
@@ -135,7 +129,7 @@ public final class MinimisersTest {
     }
 
     private static void heightBeforeLevel() {
-        LesseningGains x = ofPoints(2);
+        LesseningGains x = Check.ofPoints(2);
         x.weight(0, 5);
         x.weight(1, 8);
         x.weighed(0);
@@ -147,7 +141,7 @@ public final class MinimisersTest {
     }
 
     private static void sixElements() {
-        LesseningGains x = ofPoints(6);
+        LesseningGains x = Check.ofPoints(6);
         for (int set = 0; set < 64; set++) {
             x.tell(0, set, set == 63 ? -7 : 3);
         }
@@ -166,7 +160,7 @@ public final class MinimisersTest {
     }
 
     private static void sequenceErrors() {
-        LesseningGains x = ofPoints(2);
+        LesseningGains x = Check.ofPoints(2);
         x.weighed(0);
         check.due("30: i -2", x.level(1, -2), NONE);
         check.due("30: f", x.level(6, 0), NONE);
