@@ -74,7 +74,7 @@ public final class ModelTest {
             arguments[i] = argument(m.getName(), i);
         }
         call(m.getName(), arguments);
-        n = x.count(0);
+        n = model.count(0);
         return 1;
     }
 
