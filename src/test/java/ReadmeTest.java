@@ -32,6 +32,7 @@ public final class ReadmeTest {
     public static void main(String[] args) throws IOException {
         List<String> lines = Files.readAllLines(Path.of("README.md"));
         examples(lines);
+        commands(String.join(" ", lines));
         sets(rows(lines, "set"));
         constants(rows(lines, "constant"));
         errors(rows(lines, "how an error is answered"));
@@ -89,6 +90,18 @@ public final class ReadmeTest {
             return text.charAt(1);
         }
         return text.startsWith("0b") ? Integer.parseInt(text.substring(2), 2) : Integer.parseInt(text);
+    }
+
+    /** The program that is shown, and the commands with names for their numbers: "cut f" stands for "cut 0". */
+    private static void commands(String page) {
+        int begin = page.indexOf("Commands are fed");
+        List<String> shown = quoted(page.substring(Math.max(0, begin), page.indexOf("```java", begin)));
+        check.due("README.md: the program and the commands", shown.size(), 12);
+        for (String text : shown) {
+            boolean program = text.contains(";");
+            int answer = Check.run(new LesseningGains(), program ? text : text.replaceAll(" [a-z]+", " 0"));
+            check.holds("README.md: " + text + " is as it should be", program ? answer == 3 : answer >= 0);
+        }
     }
 
     private static Map<String, Method> publicMethods() {
